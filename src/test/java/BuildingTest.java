@@ -277,6 +277,8 @@ final class BuildingTest {
         x.lift(5, 5, true);
         CHECK.due("far(0, 36)", x.far(0, 36), 21);
         CHECK.due("far(0, 71)", x.far(0, 71), 11);
+        CHECK.due("far(71, 0) down the LIFT", x.far(71, 0), 11);
+        CHECK.due("far(36, 0) down the LIFT", x.far(36, 0), 21);
         x.lift(3, 0, true);
         CHECK.due("far(0, 36) by the nearer LIFT", x.far(0, 36), 7);
         x.building(1, 6, 6);

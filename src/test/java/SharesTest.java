@@ -309,6 +309,10 @@ final class SharesTest {
         CHECK.due("likeliest() of shares alike", x.likeliest(), 0);
         x.known(5);
         CHECK.due("likeliest() of a known CELL", x.likeliest(), 5);
+        for (int cell = 0; cell < 6; cell++) {
+            x.known(cell);
+            CHECK.due("likeliest() of " + cell + " alone", x.likeliest(), cell);
+        }
         x.stay(0);
         x.lead(1);
         CHECK.due("likeliest() of 2 and 4", x.likeliest(), 2);

@@ -15,6 +15,7 @@ final class SharesTest {
         hearByHand();
         hearAsTold();
         hearLost();
+        hearByTheLeastWeight();
         hearRefusals();
         shareAndLikeliest();
         areas();
@@ -278,6 +279,31 @@ final class SharesTest {
         x.alike();
         CHECK.due("hear(0, 0, 0) from anywhere", x.hear(0, 0, 0), 1);
         CHECK.due("share(1)", x.share(1), 1000000);
+    }
+
+    /** All weights together are 1: that is not LOST yet. */
+    private static void hearByTheLeastWeight() {
+        InsidePlaces x = new InsidePlaces();
+        x.building(1, 3, 1);
+        int no = -2;
+        Check.fill(x, 0, new int[] {1, 1, 1}, new int[] {no, no, no, 1, 1, 1, 1}, new int[] {no, no, no, no, no, no, 1});
+        for (int i = 0; i < 9; i++) {
+            x.survey(0, 0, 0);
+            x.survey(0, 1, 1);
+            x.survey(0, 2, 2);
+        }
+        x.stay(0);
+        x.known(1);
+        CHECK.due("lead(1)", x.lead(1), 2);
+        CHECK.due("hear(0, 0, 0)", x.hear(0, 0, 0), 2);
+        CHECK.due("share(2)", x.share(2), 999);
+        CHECK.due("hear(0, 0, 0)", x.hear(0, 0, 0), 2);
+        CHECK.due("share(0)", x.share(0), 999999);
+        CHECK.due("share(2)", x.share(2), 1);
+        CHECK.due("hear(0, 1, 0)", x.hear(0, 1, 0), 1);
+        CHECK.due("share(2)", x.share(2), 1000000);
+        x.known(0);
+        CHECK.due("hear(0, 1, 0) of what is 0", x.hear(0, 1, 0), InsidePlaces.NOT);
     }
 
     private static void hearRefusals() {

@@ -201,14 +201,10 @@ public final class InsidePlaces {
         if (!isSheet(s)) {
             return BAD;
         }
-        if (sheets[s].lost) {
-            return finding(NULL);
+        int score = bestScore(sheets[s]);
+        if (score >= 0) {
+            tellWay(sheets[s].rows());
         }
-        int score = finder.findWay(house, map, sheets[s], NONE);
-        if (score == NO_WAY) {
-            return NOT;
-        }
-        tellWay(sheets[s].rows());
         return score;
     }
 
@@ -221,11 +217,9 @@ public final class InsidePlaces {
             return BAD;
         }
         Sheet sheet = sheets[s];
-        if (sheet.lost) {
-            return finding(NULL);
-        }
-        if (finder.findWay(house, map, sheet, NONE) == NO_WAY) {
-            return NOT;
+        int score = bestScore(sheet);
+        if (score < 0) {
+            return score;
         }
         tellWay(sheet.rows());
         for (int row = 0; row < toldRows; row++) {
@@ -239,11 +233,9 @@ public final class InsidePlaces {
             return BAD;
         }
         Sheet sheet = sheets[s];
-        if (sheet.lost) {
-            return finding(NULL);
-        }
-        if (finder.findWay(house, map, sheet, NONE) == NO_WAY) {
-            return NOT;
+        int score = bestScore(sheet);
+        if (score < 0) {
+            return score;
         }
         int bits = 0;
         for (int sender = 0; sender < SENDERS; sender++) {
@@ -422,6 +414,15 @@ public final class InsidePlaces {
             return CAST;
         }
         return i >= 0 && i < sheet.size ? 0 : INDEX;
+    }
+
+    /** The SCORE of THE BEST WAY of a SHEET, its CELLS then in the finder; or the refusal. */
+    private int bestScore(Sheet sheet) {
+        if (sheet.lost) {
+            return finding(NULL);
+        }
+        int score = finder.findWay(house, map, sheet, NONE);
+        return score == NO_WAY ? NOT : score;
     }
 
     private void tellWay(int rows) {

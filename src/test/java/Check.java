@@ -3,9 +3,26 @@ final class Check {
     private final String name;
     private int asked = 0;
     private int wrong = 0;
+    private String sentence = "";
+    private int sentences = 0;
+    private int askedBefore = 0;
 
     Check(String name) {
         this.name = name;
+    }
+
+    /** From here on the answers are those which these words of the document ask for. */
+    void sentence(String words) {
+        endSentence();
+        sentence = words;
+        sentences++;
+        askedBefore = asked;
+    }
+
+    private void endSentence() {
+        if (sentences > 0) {
+            that("the sentence has a test of its own", asked > askedBefore);
+        }
     }
 
     void due(String call, long got, long want) {
@@ -13,7 +30,8 @@ final class Check {
         if (got != want) {
             wrong++;
             if (wrong <= 40) {
-                System.out.println(name + ": " + call + " answered " + got + ", due is " + want);
+                String where = sentence.isEmpty() ? "" : " [" + sentence + "]";
+                System.out.println(name + where + ": " + call + " answered " + got + ", due is " + want);
             }
         }
     }
@@ -29,7 +47,9 @@ final class Check {
     }
 
     void end() {
-        System.out.println(name + ": " + asked + " answers, " + wrong + " not as due");
+        endSentence();
+        String of = sentences > 0 ? sentences + " sentences, " : "";
+        System.out.println(name + ": " + of + asked + " answers, " + wrong + " not as due");
         if (wrong != 0 || asked == 0) {
             System.exit(1);
         }

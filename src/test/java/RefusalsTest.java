@@ -222,7 +222,7 @@ final class RefusalsTest {
         List<Long> answers = new ArrayList<>();
         Run run = null;
         for (String probe : probes) {
-            // Each give() and each end of 512 calls asks for a new object, lest what was asked first decide.
+            // An object is used for at most 512 calls: what they leave unasked is asked of a new one.
             if (run == null || run.used() >= Run.MOST_CALLS) {
                 run = new Run(CHECK).prepared(state.lines);
                 if (call != null) {

@@ -7,11 +7,15 @@ final class SharesEdgesTest {
         known();
         madeWhole();
         lead();
+        leadByLifts();
+        leadCut();
         leadWithoutSteps();
         leadOverAll();
         hear();
         hearByOffsets();
         hearCut();
+        hearOverAll();
+        shareOfOne();
         hearLost();
         hearRefusals();
         share();
@@ -106,6 +110,37 @@ final class SharesEdgesTest {
             building(3, 1, 1) = 3; lift(0, 0, true) = 1; known(1) = 1; lead(1) = 2; share(0) = 500000
             share(2) = 500000; stay(9) = 0; known(1) = 1; lead(1) = 3; share(0) = 90909; share(1) = 818182
             share(2) = 90909
+            """);
+    }
+
+    private static void leadByLifts() {
+        CHECK.sentence("Terms: STEPS at a LIFT: from the lowest FLOOR none goes below, from the highest none above");
+        new Run(CHECK).calls("""
+            building(2, 2, 1) = 4; lift(0, 0, true) = 1; known(0) = 1; lead(1) = 3; share(0) = 250000
+            share(1) = 500000; share(2) = 250000; known(2) = 1; lead(1) = 3; share(2) = 250000; share(3) = 500000
+            share(0) = 250000
+            # one and two thirds of a quarter are in CELLS 0 and 2, a half and a third of one in CELLS 1 and 3
+            alike() = 250000; lead(1) = 4; share(0) = 291667; share(1) = 208333; share(2) = 291667; share(3) = 208333
+            """);
+        CHECK.sentence("Terms: STEPS at a LIFT: on one FLOOR it leads nowhere");
+        new Run(CHECK).calls("""
+            building(1, 2, 1) = 2; lift(1, 0, true) = 1; known(0) = 1; lead(1) = 2   # 333333, 666667
+            lead(1) = 2; share(0) = 555556; share(1) = 444444
+            """);
+        CHECK.sentence("Terms: the least sum of LIKELY numbers: a LIFT's STEP alone");
+        new Run(CHECK).calls("""
+            building(2, 1, 1) = 2; stay(0) = 1; lift(0, 0, true) = 1; known(0) = 1; lead(1) = 1; share(1) = 1000000
+            lead(1) = 1; share(0) = 1000000; lead(20) = 1; share(0) = 1000000
+            """);
+    }
+
+    private static void leadCut() {
+        CHECK.sentence("Terms: LEADING: its SHARE times 1000 (cut, each)");
+        new Run(CHECK).calls("""
+            building(1, 2, 2) = 4; stay(8) = 1; known(0) = 1; lead(1) = 3   # 666666666, 166666666 twice
+            share(0) = 666667; share(1) = 166667; share(2) = 166666
+            lead(1) = 4   # 500000165, 222222499, 222221832, 55555499: 0.5001 goes ahead of 0.4993
+            share(0) = 500000; share(1) = 222223; share(2) = 222222; share(3) = 55555
             """);
     }
 
@@ -225,6 +260,31 @@ final class SharesEdgesTest {
             building(1, 3, 1) = 3; survey(0, 0, 0) = 1; known(2) = 1; stay(1) = 1; lead(1) = 2; share(2) = 333333
             hear(0, 0, 0) = 2; share(1) = 666667; share(2) = 333333; survey(0, 0, 2) = 1; hear(0, 0, 0) = 2
             share(1) = 500000; share(2) = 500000
+            """);
+    }
+
+    private static void hearOverAll() {
+        CHECK.sentence("15: HEARING in all 72 CELLS, by all SENDERS, from the last ROW");
+        new Run(CHECK).calls("""
+            building(3, 6, 4) = 72; sheet(0, 0, 240) = 240; survey(0, 29, 71) = 8; hear(0, 29, 0) = 72
+            # weights 13888000 in the last, 41667 in 64 CELLS, 41664 in 7: 25 lack
+            share(71) = 824393; share(0) = 2474; share(23) = 2474; share(24) = 2473; share(70) = 2473
+            within(2, 0, 5, 0, 3) = 881272; likeliest() = 71
+            """);
+        CHECK.sentence("Terms: HEARING: the greatest WEIGHT is 1: nothing is cut by that SENDER");
+        new Run(CHECK).rows(0, new int[] {5, 5, 5, 5, 5, 5, 5, 5}, new int[] {5})
+            .prepared("building(1, 2, 1)" + "; survey(0, 1, 0)".repeat(255))
+            .calls("hear(0, 0, 0) = 2; share(0) = 997009; share(1) = 2991   # by 1000 and 3");
+    }
+
+    private static void shareOfOne() {
+        CHECK.sentence("14, 15, 19: how many CELLS have a SHARE: a SHARE of 1 is one");
+        String often = "building(1, 2, 1)" + "; survey(0, 0, 0)".repeat(255) + "; survey(0, 1, 0)".repeat(7);
+        new Run(CHECK).rows(0, new int[] {5}, new int[] {-2, 5}).prepared(often).calls("""
+            hear(0, 0, 0) = 2; hear(0, 0, 0) = 2; share(1) = 9
+            hear(0, 1, 0) = 2   # an eighth of 9
+            share(0) = 999999; share(1) = 1; sure(1000000) = 2; sure(999999) = 1; within(0, 1, 1, 0, 0) = 1
+            wall(0, 1, true) = 1; lead(1) = 2; share(1) = 1; hear(0, 1, 0) = 1; share(1) = 0
             """);
     }
 

@@ -141,6 +141,16 @@ final class WalkersEdgesTest {
             give(0, 1, 2, 1, 2) = 3; count(5) = 3                  # three and three
             give(0, 1, 1, 1, 3) = NOT                              # from the second two more
             """);
+        CHECK.sentence("26: parts in fewer CELLS than LEAST: AREAS that have no CELL together, near or far");
+        String corners = """
+            building(1, 6, 6) = 36; put(0, 0) = NONE; put(1, 0) = NONE; put(2, 0) = NONE; put(3, 5) = NONE
+            put(4, 5) = NONE; put(5, 5) = NONE; put(6, 30) = NONE; put(7, 30) = NONE; put(8, 30) = NONE
+            put(9, 35) = NONE; put(10, 35) = NONE; put(11, 35) = NONE; give(0, 0, 0, 0, 0) = 3
+            """;
+        new Run(CHECK).calls(corners).calls("""
+            give(0, 5, 5, 0, 0) = NOT; give(0, 0, 0, 5, 5) = NOT; give(0, 5, 5, 5, 5) = NOT   # two CELLS
+            give(0, 4, 5, 0, 0) = 3; give(0, 0, 0, 4, 5) = 3; give(0, 4, 5, 5, 5) = 3; count(5) = 4
+            """);
         CHECK.sentence("26: but not in none: an AREA that was GIVEN is GIVEN again");
         with(5, 5).calls("""
             give(0, 1, 1, 1, 1) = 3; give(0, 1, 1, 1, 1) = 3; count(5) = 1; least(20) = 3; give(0, 1, 1, 1, 1) = NOT

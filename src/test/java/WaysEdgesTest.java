@@ -6,6 +6,7 @@ final class WaysEdgesTest {
     public static void main(String[] args) {
         noRows();
         oneRowAndThirty();
+        allCells();
         noWay();
         leastAndGreatestScores();
         whatScoresLeaveOut();
@@ -46,6 +47,17 @@ final class WaysEdgesTest {
             way(0) = 0; way(1) = 1; way(28) = 0; way(29) = 1; way(30) = BAD; moved(0) = 255; learn(0) = 30
             way(29) = 1; weight(0, 0, 0) = 16; weight(7, 1, 0) = 16; way(30) = BAD; sheet(0, 2, 239) = 239
             learn(0) = 29; way(28) = 0; way(29) = BAD; weight(0, 0, 0) = 31; weight(0, 1, 0) = 30
+            """);
+    }
+
+    private static void allCells() {
+        CHECK.sentence("20 to 23: thirty ROWS over 72 CELLS");
+        new Run(CHECK).calls("""
+            building(3, 6, 4) = 72; sheet(0, 0, 240) = 240; best(0) = 298; way(0) = 0; way(29) = 1; learn(0) = 30
+            building(3, 6, 4) = 72; stay(9) = 1; survey(0, 0, 71) = 8; best(0) = 741   # 30 times 16, 29 times 9
+            way(0) = 71; way(29) = 71; moved(0) = 0; lay(0, 0, 0, 3) = 1; survey(0, 0, 70) = 8; stay(1) = 9
+            best(0) = 524   # 16 first, then 15 times 16 and 14 times 15, and 29 STEPS of 2
+            way(0) = 70; way(1) = 71; way(2) = 70; way(29) = 71
             """);
     }
 

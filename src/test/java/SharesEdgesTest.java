@@ -142,6 +142,11 @@ final class SharesEdgesTest {
             lead(1) = 4   # 500000165, 222222499, 222221832, 55555499: 0.5001 goes ahead of 0.4993
             share(0) = 500000; share(1) = 222223; share(2) = 222222; share(3) = 55555
             """);
+        new Run(CHECK).calls("""
+            building(1, 3, 1) = 3; known(1) = 1; lead(1) = 3; share(0) = 400000; share(1) = 200000
+            lead(1) = 3   # 213333333, 573333332, 213333333
+            share(0) = 213334; share(1) = 573333; share(2) = 213333
+            """);
     }
 
     private static void leadWithoutSteps() {

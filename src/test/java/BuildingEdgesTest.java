@@ -88,7 +88,7 @@ final class BuildingEdgesTest {
 
     private static void newObjectsAreApart() {
         CHECK.sentence("1: a new object is as every new one");
-        long first = new InsidePlaces().digest();
+        long first = new Place().digest();
         Run run = new Run(CHECK).rows(0, new int[] {1, 2, 3}).calls("""
             stay(9) = 1; dead(7, true) = 1; wall(0, 1, true) = 1; lift(0, 0, true) = 1; survey(0, 0, 0) = 3
             known(5) = 1; best(0) = 6; least(1) = 3; put(0, 3) = NONE; give(0, 3, 3, 0, 0) = 1

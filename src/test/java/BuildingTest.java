@@ -18,18 +18,13 @@ final class BuildingTest {
     }
 
     private static void newObject() {
-        InsidePlaces x = new InsidePlaces();
+        Place x = new Place();
         int[] counts = {1, 4, 4, 0, 0, 0, 0, 1, 3, 0, 0};
         for (int what = 0; what < counts.length; what++) {
             CHECK.due("new: count(" + what + ")", x.count(what), counts[what]);
         }
         for (int cell = 0; cell < 16; cell++) {
             CHECK.due("new: share(" + cell + ")", x.share(cell), 62500);
-            for (int sender = 0; sender < 8; sender++) {
-                for (int heard = -1; heard <= 9; heard++) {
-                    CHECK.due("new: weight", x.weight(sender, cell, heard), 1);
-                }
-            }
         }
         CHECK.due("new: share(16)", x.share(16), InsidePlaces.BAD);
         for (int s = 0; s < 4; s++) {
@@ -39,13 +34,25 @@ final class BuildingTest {
         for (int walker = 0; walker < 20; walker++) {
             CHECK.due("new: put(" + walker + ", -1)", x.put(walker, -1), InsidePlaces.NONE);
         }
+        for (int sender = 0; sender < 8; sender++) {
+            newMap(sender);
+        }
+    }
+
+    private static void newMap(int sender) {
+        Place x = new Place();
+        for (int cell = 0; cell < 16; cell++) {
+            for (int heard = -1; heard <= 9; heard++) {
+                CHECK.due("new: weight(" + sender + ", " + cell + ", " + heard + ")", x.weight(sender, cell, heard), 1);
+            }
+        }
     }
 
     private static void buildingSizes() {
         for (int floors = -1; floors <= 5; floors++) {
             for (int w = -1; w <= 8; w++) {
                 for (int h = -1; h <= 8; h++) {
-                    InsidePlaces x = new InsidePlaces();
+                    Place x = new Place();
                     long before = x.digest();
                     boolean good = floors >= 1 && floors <= 3 && w >= 1 && w <= 6 && h >= 1 && h <= 6
                         && floors * w * h <= 72;
@@ -61,7 +68,7 @@ final class BuildingTest {
                 }
             }
         }
-        InsidePlaces x = new InsidePlaces();
+        Place x = new Place();
         for (int wild : WILD) {
             CHECK.due("building(wild)", x.building(wild, 2, 2), InsidePlaces.BAD);
             CHECK.due("building(wild)", x.building(2, wild, 2), InsidePlaces.BAD);
@@ -72,8 +79,8 @@ final class BuildingTest {
     }
 
     private static void buildingClears() {
-        InsidePlaces x = new InsidePlaces();
-        InsidePlaces fresh = new InsidePlaces();
+        Place x = new Place();
+        Place fresh = new Place();
         x.wall(0, 1, true);
         x.wall(0, 4, true);
         x.lift(0, 0, true);
@@ -101,7 +108,7 @@ final class BuildingTest {
     }
 
     private static void buildingLeaves() {
-        InsidePlaces x = new InsidePlaces();
+        Place x = new Place();
         x.stay(7);
         x.dead(2, true);
         x.dead(5, true);
@@ -122,7 +129,7 @@ final class BuildingTest {
     }
 
     private static void walls() {
-        InsidePlaces x = new InsidePlaces();
+        Place x = new Place();
         x.building(2, 3, 3);
         CHECK.due("wall(4, 5, false)", x.wall(4, 5, false), 0);
         CHECK.due("wall(5, 4, true)", x.wall(5, 4, true), 1);
@@ -154,22 +161,30 @@ final class BuildingTest {
     private static void wallsNotBeside() {
         int[][] sizes = {{1, 4, 4}, {2, 3, 2}, {3, 1, 4}, {3, 4, 1}, {3, 1, 1}, {1, 1, 1}, {2, 6, 6}};
         for (int[] size : sizes) {
-            InsidePlaces x = new InsidePlaces();
-            int cells = x.building(size[0], size[1], size[2]);
-            x.lift(0, 0, true);
+            int cells = size[0] * size[1] * size[2];
             for (int a = -1; a <= cells; a++) {
-                for (int b = -1; b <= cells; b++) {
-                    boolean beside = isBeside(a, b, cells, size[1], size[2]);
-                    long before = x.digest();
-                    CHECK.due("wall(" + a + ", " + b + ", true)", x.wall(a, b, true), beside ? 1 : InsidePlaces.BAD);
-                    CHECK.due("wall(" + b + ", " + a + ", false)", x.wall(b, a, false), beside ? 1 : InsidePlaces.BAD);
-                    CHECK.same("wall there and back", x, before, 0);
-                }
+                wallsOf(a, size, cells);
             }
+            Place x = new Place();
+            x.building(size[0], size[1], size[2]);
             for (int wild : WILD) {
                 CHECK.due("wall(wild)", x.wall(wild, wild + 1, true), InsidePlaces.BAD);
                 CHECK.due("wall(wild)", x.wall(0, wild, true), InsidePlaces.BAD);
             }
+        }
+    }
+
+    /** From one number to every other: a WALL is made and taken away, or there can be none. */
+    private static void wallsOf(int a, int[] size, int cells) {
+        Place x = new Place();
+        x.building(size[0], size[1], size[2]);
+        x.lift(0, 0, true);
+        for (int b = -1; b <= cells; b++) {
+            boolean beside = isBeside(a, b, cells, size[1], size[2]);
+            long before = x.digest();
+            CHECK.due("wall(" + a + ", " + b + ", true)", x.wall(a, b, true), beside ? 1 : InsidePlaces.BAD);
+            CHECK.due("wall(" + b + ", " + a + ", false)", x.wall(b, a, false), beside ? 1 : InsidePlaces.BAD);
+            CHECK.same("wall there and back", x, before, 0);
         }
     }
 
@@ -183,7 +198,7 @@ final class BuildingTest {
     }
 
     private static void lifts() {
-        InsidePlaces x = new InsidePlaces();
+        Place x = new Place();
         x.building(3, 3, 2);
         CHECK.due("lift(2, 1, false)", x.lift(2, 1, false), 0);
         CHECK.due("lift(2, 1, true)", x.lift(2, 1, true), 1);
@@ -217,7 +232,7 @@ final class BuildingTest {
     }
 
     private static void stays() {
-        InsidePlaces x = new InsidePlaces();
+        Place x = new Place();
         int was = 1;
         for (int likely = 0; likely <= 9; likely++) {
             CHECK.due("stay(" + likely + ")", x.stay(likely), was);
@@ -238,22 +253,11 @@ final class BuildingTest {
     private static void stepsByGeometry() {
         int[][] sizes = {{1, 4, 4}, {3, 4, 6}, {2, 6, 6}, {3, 1, 1}, {3, 1, 6}, {3, 6, 1}};
         for (int[] size : sizes) {
-            InsidePlaces x = new InsidePlaces();
-            int w = size[1];
-            int cells = x.building(size[0], w, size[2]);
-            x.lift(w - 1, 0, true);
-            x.stay(5);
-            for (int a = 0; a < cells; a++) {
-                for (int b = 0; b < cells; b++) {
-                    boolean lifted = a % (w * size[2]) == w - 1 && Math.abs(a - b) == w * size[2];
-                    int likely = a == b ? 5 : isBeside(a, b, cells, w, size[2]) ? 2 : lifted ? 1 : 0;
-                    CHECK.due("step(" + a + ", " + b + ")", x.step(a, b), likely);
-                }
-                CHECK.due("step(a, cells)", x.step(a, cells), InsidePlaces.BAD);
-                CHECK.due("step(cells, a)", x.step(cells, a), InsidePlaces.BAD);
-                CHECK.due("step(a, -1)", x.step(a, -1), InsidePlaces.BAD);
-                CHECK.due("step(-1, a)", x.step(-1, a), InsidePlaces.BAD);
+            for (int a = 0; a < size[0] * size[1] * size[2]; a++) {
+                stepsFrom(a, size);
             }
+            Place x = new Place();
+            x.building(size[0], size[1], size[2]);
             for (int wild : WILD) {
                 CHECK.due("step(wild)", x.step(wild, 0), InsidePlaces.BAD);
                 CHECK.due("step(wild)", x.step(0, wild), InsidePlaces.BAD);
@@ -261,8 +265,26 @@ final class BuildingTest {
         }
     }
 
+    private static void stepsFrom(int a, int[] size) {
+        Place x = new Place();
+        int w = size[1];
+        int floor = w * size[2];
+        int cells = x.building(size[0], w, size[2]);
+        x.lift(w - 1, 0, true);
+        x.stay(5);
+        for (int b = 0; b < cells; b++) {
+            boolean lifted = a % floor == w - 1 && Math.abs(a - b) == floor;
+            int likely = a == b ? 5 : isBeside(a, b, cells, w, size[2]) ? 2 : lifted ? 1 : 0;
+            CHECK.due("step(" + a + ", " + b + ")", x.step(a, b), likely);
+        }
+        CHECK.due("step(" + a + ", cells)", x.step(a, cells), InsidePlaces.BAD);
+        CHECK.due("step(cells, " + a + ")", x.step(cells, a), InsidePlaces.BAD);
+        CHECK.due("step(" + a + ", -1)", x.step(a, -1), InsidePlaces.BAD);
+        CHECK.due("step(-1, " + a + ")", x.step(-1, a), InsidePlaces.BAD);
+    }
+
     private static void farness() {
-        InsidePlaces x = new InsidePlaces();
+        Place x = new Place();
         CHECK.due("far(0, 15)", x.far(0, 15), 6);
         CHECK.due("far(15, 0)", x.far(15, 0), 6);
         CHECK.due("far(9, 9)", x.far(9, 9), 0);

@@ -41,7 +41,7 @@ final class Check {
     }
 
     /** A refusal changes nothing: what can be seen of the object is as it was. */
-    void same(String call, InsidePlaces x, long before, int finding) {
+    void same(String call, Place x, long before, int finding) {
         due("digest() after " + call, x.digest(), before);
         due("count(6) after " + call, x.count(6), finding);
     }
@@ -56,7 +56,7 @@ final class Check {
     }
 
     /** A new SHEET of shorts with these ROWS of 8 items. */
-    static void fill(InsidePlaces x, int s, int[]... rows) {
+    static void fill(Place x, int s, int[]... rows) {
         x.sheet(s, 1, 8 * rows.length);
         for (int r = 0; r < rows.length; r++) {
             for (int k = 0; k < 8; k++) {

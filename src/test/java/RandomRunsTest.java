@@ -7,8 +7,10 @@ import java.util.TreeMap;
 /** Runs of calls by fixed seeds, each answer and all that can be seen compared with the Oracle's; none may throw. */
 final class RandomRunsTest {
     private static final Check CHECK = new Check("RandomRunsTest");
-    private static final int RUNS = 700;
-    private static final int CALLS = 120;
+    private static final int RUNS = 1000;
+    /** So many calls are kept for the end, and so many are needed for one more call and what it shows. */
+    private static final int LAST = 45;
+    private static final int MORE = 40;
     private static final int[] WILD = {Integer.MIN_VALUE, Integer.MIN_VALUE + 1, -65536, -101, -5, -3, -2, -1, 0, 10, 21,
         73, 241, 65536, 1 << 28, 1 << 30, Integer.MAX_VALUE - 1, Integer.MAX_VALUE};
     private static final String[] NAMES = {"building", "wall", "lift", "stay", "step", "far", "dead", "survey", "weight",
@@ -18,7 +20,7 @@ final class RandomRunsTest {
         12, 4, 5, 1};
     private static final Map<String, Integer> MET = new TreeMap<>();
     private static Random random;
-    private static InsidePlaces x;
+    private static Place x;
     private static Oracle due;
 
     public static void main(String[] args) {
@@ -30,13 +32,15 @@ final class RandomRunsTest {
         }
         for (int run = 0; run < RUNS; run++) {
             random = new Random(run);
-            x = new InsidePlaces();
+            x = new Place();
             due = new Oracle();
             prepare();
-            for (int i = 0; i < CALLS; i++) {
+            while (x.left() > LAST + MORE) {
                 call(calls.get(random.nextInt(calls.size())), run);
-                compareAll("run " + run);
+                CHECK.due("run " + run + ": digest()", x.digest(), due.digest());
+                CHECK.due("run " + run + ": count(6)", x.count(6), due.count(6));
             }
+            compareAll("run " + run);
         }
         everyAnswerWasMet();
         CHECK.end();
@@ -50,14 +54,15 @@ final class RandomRunsTest {
         CHECK.due("building", x.building(floors, w, h), due.building(floors, w, h));
         for (int s = 0; s < 3; s++) {
             int form = random.nextInt(3);
-            int n = random.nextInt(10) == 0 ? 240 : random.nextInt(60);
+            int n = random.nextInt(10) == 0 ? 240 : random.nextInt(45);
             CHECK.due("sheet", x.sheet(s, form, n), due.sheet(s, form, n));
-            for (int i = 0; i < n; i++) {
+            for (int i = 0; i < Math.min(n, 45); i++) {
+                int at = n == 240 ? random.nextInt(n) : i;
                 int v = heard();
-                CHECK.due("lay", x.lay(s, form, i, v), due.lay(s, form, i, v));
+                CHECK.due("lay", x.lay(s, form, at, v), due.lay(s, form, at, v));
             }
         }
-        for (int walker = 0; walker < 20; walker++) {
+        for (int walker = random.nextInt(20); walker >= 0; walker--) {
             int cell = random.nextInt(floors * w * h);
             CHECK.due("put", x.put(walker, cell), due.put(walker, cell));
         }
@@ -201,6 +206,7 @@ final class RandomRunsTest {
                 a[0] = from(0, 3);
                 got = x.best(a[0]);
                 want = due.best(a[0]);
+                compareWay("run " + run + ": after best(" + a[0] + ")");
                 break;
             case "way":
                 a[0] = from(0, 8);
@@ -211,11 +217,13 @@ final class RandomRunsTest {
                 a[0] = from(0, 3);
                 got = x.learn(a[0]);
                 want = due.learn(a[0]);
+                compareWay("run " + run + ": after learn(" + a[0] + ")");
                 break;
             case "moved":
                 a[0] = from(0, 3);
                 got = x.moved(a[0]);
                 want = due.moved(a[0]);
+                compareWay("run " + run + ": after moved(" + a[0] + ")");
                 break;
             case "put":
                 a = new int[] {from(0, 19), random.nextInt(8) == 0 ? -1 : cell()};
@@ -229,7 +237,11 @@ final class RandomRunsTest {
                 break;
             case "give":
                 // Many in a row: the AREAS that were GIVEN are forgotten with the next put().
-                for (int i = random.nextInt(4) == 0 ? 80 : 3; i > 0; i--) {
+                boolean many = random.nextInt(12) == 0;
+                if (many) {
+                    CHECK.due("least(1)", x.least(1), due.least(1));
+                }
+                for (int i = many ? 150 : 3; i > 0 && x.left() > LAST + MORE; i--) {
                     a = area();
                     compare(call, run, a, x.give(a[0], a[1], a[2], a[3], a[4]), due.give(a[0], a[1], a[2], a[3], a[4]));
                 }
@@ -296,6 +308,15 @@ final class RandomRunsTest {
         for (int i = 0; i <= 30; i++) {
             CHECK.due(where + ": way(" + i + ")", x.way(i), due.way(i));
         }
+    }
+
+    /** The way that was told latest, to its end. */
+    private static void compareWay(String where) {
+        int i = -1;
+        do {
+            i++;
+            CHECK.due(where + ": way(" + i + ")", x.way(i), due.way(i));
+        } while (due.way(i) >= 0);
     }
 
     private static void everyAnswerWasMet() {

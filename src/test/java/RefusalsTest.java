@@ -223,7 +223,7 @@ final class RefusalsTest {
         Run run = null;
         for (String probe : probes) {
             // An object is used for at most 512 calls: what they leave unasked is asked of a new one.
-            if (run == null || run.used() >= Run.MOST_CALLS) {
+            if (run == null || run.left() == 0) {
                 run = new Run(CHECK).prepared(state.lines);
                 if (call != null) {
                     run.ask(call);

@@ -5,14 +5,12 @@ import java.util.Map;
 
 /** One new object and the calls on it, told as text: "wall(0, 1, true) = 1; count(3) = 1". */
 final class Run {
-    /** "An object is used for at most 512 calls after it has been made." */
-    static final int MOST_CALLS = 512;
     private static final int MISSING = -2;
     private static final Map<String, Method> METHODS = new HashMap<>();
     private static final Map<String, Long> NUMBERS = new HashMap<>();
 
     static {
-        for (Method method : InsidePlaces.class.getDeclaredMethods()) {
+        for (Method method : Place.class.getDeclaredMethods()) {
             METHODS.put(method.getName(), method);
         }
         NUMBERS.put("NONE", -1L);
@@ -29,8 +27,7 @@ final class Run {
     }
 
     private final Check check;
-    private final InsidePlaces x = new InsidePlaces();
-    private int calls = 0;
+    private final Place x = new Place();
 
     Run(Check check) {
         this.check = check;
@@ -79,16 +76,13 @@ final class Run {
         return this;
     }
 
-    int used() {
-        return calls;
+    /** How many calls its object may still be asked. */
+    int left() {
+        return x.left();
     }
 
-    /** What a call answers; a call that throws is a fault of its own, and so is one too many. */
+    /** What a call answers; a call that throws is a fault of its own. */
     long ask(String call) {
-        calls++;
-        if (calls > MOST_CALLS) {
-            check.that("the test stays within 512 calls at " + call, false);
-        }
         int open = call.indexOf('(');
         String inner = call.substring(open + 1, call.length() - 1);
         String[] told = inner.isEmpty() ? new String[0] : inner.split(", ");

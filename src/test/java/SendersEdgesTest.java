@@ -120,7 +120,7 @@ final class SendersEdgesTest {
         CHECK.sentence("9: how many SENDERS were not MISSING: none, all");
         new Run(CHECK).rows(0, new int[] {}, new int[] {-1, -1, -1, -1, -1, -1, -1, -1}).calls("""
             digest() = DIGEST; survey(0, 0, 0) = 0; digest() = DIGEST; survey(0, 1, 0) = 8; weight(7, 0, -1) = 2
-            """.replace("DIGEST", "" + new InsidePlaces().digest()));
+            """.replace("DIGEST", "" + new Place().digest()));
         CHECK.sentence("9: a SURVEY in the first and in the last CELL");
         new Run(CHECK).rows(0, new int[] {3}).calls("""
             building(2, 6, 6) = 72; survey(0, 0, 0) = 1; survey(0, 0, 71) = 1; weight(0, 0, 3) = 2

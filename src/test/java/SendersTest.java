@@ -16,7 +16,7 @@ final class SendersTest {
     }
 
     private static void deadOnes() {
-        InsidePlaces x = new InsidePlaces();
+        Place x = new Place();
         CHECK.due("dead(0, false)", x.dead(0, false), 1);
         CHECK.due("dead(7, true)", x.dead(7, true), 1);
         CHECK.due("dead(7, true)", x.dead(7, true), 1);
@@ -33,24 +33,20 @@ final class SendersTest {
         }
     }
 
-    private static void surveys() {
-        InsidePlaces x = new InsidePlaces();
+    private static Place surveyed() {
+        Place x = new Place();
         Check.fill(x, 2, new int[] {-1, 0, 9, 10, -2, 1000, 5, -1000}, new int[] {-2, -2, -2, -2, -2, -2, -2, -2});
         x.dead(6, true);
         CHECK.due("survey(2, 0, 15)", x.survey(2, 0, 15), 4);
+        return x;
+    }
+
+    private static void surveys() {
+        Place x = surveyed();
         CHECK.due("weight(0, 15, -1)", x.weight(0, 15, -1), 2);
         CHECK.due("weight(1, 15, 0)", x.weight(1, 15, 0), 2);
         CHECK.due("weight(2, 15, 9)", x.weight(2, 15, 9), 2);
         CHECK.due("weight(6, 15, 5) of a DEAD one", x.weight(6, 15, 5), 2);
-        long sum = 0;
-        for (int sender = 0; sender < 8; sender++) {
-            for (int cell = 0; cell < 16; cell++) {
-                for (int heard = -1; heard <= 9; heard++) {
-                    sum += x.weight(sender, cell, heard) - 1;
-                }
-            }
-        }
-        CHECK.due("all counts", sum, 4);
         CHECK.due("survey(2, 1, 15) of MISSING ones", x.survey(2, 1, 15), 0);
         CHECK.due("survey(2, 0, 15)", x.survey(2, 0, 15), 4);
         CHECK.due("survey(2, 0, 0)", x.survey(2, 0, 0), 4);
@@ -58,10 +54,24 @@ final class SendersTest {
         CHECK.due("weight(2, 0, 9)", x.weight(2, 0, 9), 2);
         CHECK.due("weight(2, 1, 9)", x.weight(2, 1, 9), 1);
         CHECK.due("survey(2, 2, 0)", x.survey(2, 2, 0), -12);
+        int[] counted = {1, 1, 1, 0, 0, 0, 1, 0};
+        for (int sender = 0; sender < 8; sender++) {
+            CHECK.due("all counts of SENDER " + sender, countsOf(surveyed(), sender), counted[sender]);
+        }
+    }
+
+    private static int countsOf(Place x, int sender) {
+        int sum = 0;
+        for (int cell = 0; cell < 16; cell++) {
+            for (int heard = -1; heard <= 9; heard++) {
+                sum += x.weight(sender, cell, heard) - 1;
+            }
+        }
+        return sum;
     }
 
     private static void surveysOfForms() {
-        InsidePlaces x = new InsidePlaces();
+        Place x = new Place();
         for (int form = 0; form < 3; form++) {
             x.sheet(0, form, 16);
             for (int k = 0; k < 8; k++) {
@@ -75,7 +85,7 @@ final class SendersTest {
     }
 
     private static void countsEndAt255() {
-        InsidePlaces x = new InsidePlaces();
+        Place x = new Place();
         int[][] rows = new int[30][];
         for (int r = 0; r < 30; r++) {
             rows[r] = new int[] {4};
@@ -97,7 +107,7 @@ final class SendersTest {
     }
 
     private static void surveyRefusals() {
-        InsidePlaces x = new InsidePlaces();
+        Place x = new Place();
         x.sheet(0, 0, 23);
         long before = x.digest();
         CHECK.due("survey(-1, 0, 0)", x.survey(-1, 0, 0), InsidePlaces.BAD);
@@ -116,7 +126,7 @@ final class SendersTest {
     }
 
     private static void weightRefusals() {
-        InsidePlaces x = new InsidePlaces();
+        Place x = new Place();
         x.building(1, 3, 2);
         int[][] bad = {{-1, 0, 0}, {8, 0, 0}, {0, -1, 0}, {0, 6, 0}, {0, 0, -2}, {0, 0, 10},
             {Integer.MAX_VALUE, 0, 0}, {0, Integer.MIN_VALUE, 0}, {0, 0, Integer.MAX_VALUE}};
@@ -130,14 +140,14 @@ final class SendersTest {
     private static void offsets() {
         for (int heard = 0; heard <= 9; heard++) {
             for (int told = 0; told <= 9; told++) {
-                InsidePlaces x = new InsidePlaces();
+                Place x = new Place();
                 Check.fill(x, 0, new int[] {told}, new int[] {heard});
                 x.survey(0, 0, 6);
                 CHECK.due("offset of " + heard + " to " + told, x.offset(0, 1, 6), leastOffset(heard, told));
                 CHECK.due("offset elsewhere", x.offset(0, 1, 7), 0);
             }
         }
-        InsidePlaces x = new InsidePlaces();
+        Place x = new Place();
         Check.fill(x, 0, new int[] {3, 3, 8}, new int[] {5, 5, 5}, new int[] {-1, 5, 12});
         x.survey(0, 0, 2);
         CHECK.due("offset of the greatest sum", x.offset(0, 1, 2), 2);
@@ -165,7 +175,7 @@ final class SendersTest {
     }
 
     private static void offsetsOfLikeSums() {
-        InsidePlaces x = new InsidePlaces();
+        Place x = new Place();
         Check.fill(x, 0, new int[] {7, 3, 5}, new int[] {5, 5, -2}, new int[] {5, -2, -2}, new int[] {8, 0, -2});
         x.survey(0, 0, 0);
         CHECK.due("offset: -2 and 2 are alike", x.offset(0, 1, 0), -2);
@@ -174,7 +184,7 @@ final class SendersTest {
     }
 
     private static void offsetRefusals() {
-        InsidePlaces x = new InsidePlaces();
+        Place x = new Place();
         x.sheet(3, 2, 8);
         long before = x.digest();
         CHECK.due("offset(-1, 0, 0)", x.offset(-1, 0, 0), -100);

@@ -1,4 +1,5 @@
 import java.math.BigInteger;
+import java.util.Arrays;
 
 /** Promises 12 to 19: alike, known, lead, hear, share, likeliest, within, sure. */
 final class SharesTest {
@@ -27,7 +28,7 @@ final class SharesTest {
         for (int floors = 1; floors <= 3; floors++) {
             for (int w = 1; w <= 6; w++) {
                 for (int h = 1; h <= 6 && floors * w * h <= 72; h++) {
-                    InsidePlaces x = new InsidePlaces();
+                    Place x = new Place();
                     int cells = x.building(floors, w, h);
                     x.known(cells - 1);
                     CHECK.due("alike() of " + cells, x.alike(), 1000000 / cells);
@@ -41,7 +42,7 @@ final class SharesTest {
     }
 
     private static void knownCells() {
-        InsidePlaces x = new InsidePlaces();
+        Place x = new Place();
         x.building(2, 3, 2);
         for (int known = 0; known < 12; known++) {
             CHECK.due("known(" + known + ")", x.known(known), 1);
@@ -58,7 +59,7 @@ final class SharesTest {
     }
 
     private static void leadByHand() {
-        InsidePlaces x = new InsidePlaces();
+        Place x = new Place();
         x.building(1, 3, 1);
         x.known(1);
         CHECK.due("lead(1)", x.lead(1), 3);
@@ -73,7 +74,7 @@ final class SharesTest {
     }
 
     private static void leadWithoutSteps() {
-        InsidePlaces x = new InsidePlaces();
+        Place x = new Place();
         x.building(1, 2, 2);
         x.stay(0);
         x.wall(0, 1, true);
@@ -97,28 +98,53 @@ final class SharesTest {
         int[][] sizes = {{1, 4, 4}, {3, 4, 6}, {2, 6, 6}, {3, 1, 1}, {2, 3, 5}, {1, 6, 1}};
         for (int[] size : sizes) {
             for (int stay = 0; stay <= 9; stay += 3) {
-                InsidePlaces x = new InsidePlaces();
-                int cells = x.building(size[0], size[1], size[2]);
-                x.stay(stay);
-                x.lift(0, 0, true);
-                x.lift(size[1] - 1, size[2] - 1, true);
-                for (int cell = 0; cell + 1 < cells; cell += 3) {
-                    x.wall(cell, cell + 1, true);
-                }
-                x.known(cells / 2);
-                for (int n = 1; n <= 20; n += 6) {
-                    int[] due = sharesOf(x, cells);
-                    for (int i = 0; i < n; i++) {
-                        due = ledOnce(x, due);
-                    }
-                    CHECK.due("lead(" + n + ")", x.lead(n), shared(due));
-                    compare("lead(" + n + ")", x, due);
-                }
+                ledFromTheMiddle(size, stay);
             }
         }
     }
 
-    private static int[] sharesOf(InsidePlaces x, int cells) {
+    private static void ledFromTheMiddle(int[] size, int stay) {
+        int cells = size[0] * size[1] * size[2];
+        int[][] steps = stepsOf(size, stay);
+        Place x = walled(size, stay);
+        x.known(cells / 2);
+        int[] due = new int[cells];
+        due[cells / 2] = 1000000;
+        for (int n = 1; n <= 20; n += 6) {
+            for (int i = 0; i < n; i++) {
+                due = ledOnce(steps, due);
+            }
+            CHECK.due("lead(" + n + ")", x.lead(n), shared(due));
+            compare("lead(" + n + ")", x, due);
+        }
+    }
+
+    private static Place walled(int[] size, int stay) {
+        Place x = new Place();
+        int cells = x.building(size[0], size[1], size[2]);
+        x.stay(stay);
+        x.lift(0, 0, true);
+        x.lift(size[1] - 1, size[2] - 1, true);
+        for (int cell = 0; cell + 1 < cells; cell += 3) {
+            x.wall(cell, cell + 1, true);
+        }
+        return x;
+    }
+
+    /** The LIKELY numbers of all STEPS: a new object for each CELL, as one is used for at most 512 calls. */
+    private static int[][] stepsOf(int[] size, int stay) {
+        int cells = size[0] * size[1] * size[2];
+        int[][] steps = new int[cells][cells];
+        for (int from = 0; from < cells; from++) {
+            Place x = walled(size, stay);
+            for (int to = 0; to < cells; to++) {
+                steps[from][to] = x.step(from, to);
+            }
+        }
+        return steps;
+    }
+
+    private static int[] sharesOf(Place x, int cells) {
         int[] shares = new int[cells];
         for (int cell = 0; cell < cells; cell++) {
             shares[cell] = x.share(cell);
@@ -134,27 +160,27 @@ final class SharesTest {
         return number;
     }
 
-    private static void compare(String call, InsidePlaces x, int[] due) {
+    private static void compare(String call, Place x, int[] due) {
         for (int cell = 0; cell < due.length; cell++) {
             CHECK.due(call + " share(" + cell + ")", x.share(cell), due[cell]);
         }
     }
 
-    private static int[] ledOnce(InsidePlaces x, int[] shares) {
+    private static int[] ledOnce(int[][] steps, int[] shares) {
         int cells = shares.length;
         BigInteger[] weights = new BigInteger[cells];
-        java.util.Arrays.fill(weights, BigInteger.ZERO);
+        Arrays.fill(weights, BigInteger.ZERO);
         for (int from = 0; from < cells; from++) {
             BigInteger all = BigInteger.valueOf(shares[from]).multiply(BigInteger.valueOf(1000));
             int sum = 0;
             for (int to = 0; to < cells; to++) {
-                sum += x.step(from, to);
+                sum += steps[from][to];
             }
             for (int to = 0; to < cells; to++) {
                 if (sum == 0) {
                     weights[to] = weights[to].add(to == from ? all : BigInteger.ZERO);
                 } else {
-                    BigInteger likely = BigInteger.valueOf(x.step(from, to));
+                    BigInteger likely = BigInteger.valueOf(steps[from][to]);
                     weights[to] = weights[to].add(all.multiply(likely).divide(BigInteger.valueOf(sum)));
                 }
             }
@@ -188,7 +214,7 @@ final class SharesTest {
     }
 
     private static void leadRefusals() {
-        InsidePlaces x = new InsidePlaces();
+        Place x = new Place();
         x.known(4);
         long before = x.digest();
         int[] bad = {0, -1, 21, Integer.MIN_VALUE, Integer.MAX_VALUE};
@@ -200,7 +226,7 @@ final class SharesTest {
     }
 
     private static void hearByHand() {
-        InsidePlaces x = new InsidePlaces();
+        Place x = new Place();
         x.building(1, 2, 1);
         Check.fill(x, 0, new int[] {5}, new int[] {7, -1});
         x.survey(0, 0, 0);
@@ -224,44 +250,57 @@ final class SharesTest {
         int[][] rows = {{4, 5, 6, -1, 0, 9, 3, 2}, {4, 5, -2, -1, 9, 0, 3, 10}, {-1, -1, -1, 1, 1, 1, 8, 8},
             {9, 8, 7, 6, 5, 4, 3, 2}, {-2, -2, -2, -2, -2, -2, -2, -2}};
         for (int offset = -4; offset <= 4; offset++) {
-            InsidePlaces x = new InsidePlaces();
-            int cells = x.building(2, 3, 3);
-            Check.fill(x, 1, rows);
-            for (int i = 0; i < 40; i++) {
-                x.survey(1, i * i % 5, i * 7 % 5 + i % 13);
-            }
-            x.dead(2, true);
-            x.known(4);
-            x.lead(3);
+            Place x = surveyed(rows);
+            int[] due = sharesOf(x, 18);
             for (int row = 0; row < rows.length; row++) {
-                int[] due = heard(x, sharesOf(x, cells), rows[row], offset, 2);
+                due = heard(surveyed(rows), due, rows[row], offset);
                 CHECK.due("hear(1, " + row + ", " + offset + ")", x.hear(1, row, offset), shared(due));
                 compare("hear(1, " + row + ", " + offset + ")", x, due);
             }
         }
     }
 
-    private static int[] heard(InsidePlaces x, int[] shares, int[] row, int offset, int dead) {
-        BigInteger[] weights = new BigInteger[shares.length];
-        for (int cell = 0; cell < shares.length; cell++) {
-            long number = 1000;
-            for (int sender = 0; sender < 8; sender++) {
+    /** 18 CELLS with a MAP, SENDER 2 DEAD, led from CELL 4. */
+    private static Place surveyed(int[][] rows) {
+        Place x = new Place();
+        x.building(2, 3, 3);
+        Check.fill(x, 1, rows);
+        for (int i = 0; i < 40; i++) {
+            x.survey(1, i * i % 5, i * 7 % 5 + i % 13);
+        }
+        x.dead(2, true);
+        x.known(4);
+        x.lead(3);
+        return x;
+    }
+
+    /** The SHARES after HEARING, by the WEIGHTS that an object tells. */
+    private static int[] heard(Place x, int[] shares, int[] row, int offset) {
+        long[] numbers = new long[shares.length];
+        Arrays.fill(numbers, 1000);
+        for (int sender = 0; sender < 8; sender++) {
+            if (sender != 2 && row[sender] >= -1 && row[sender] <= 9) {
                 int by = row[sender] < 0 ? row[sender] : Math.max(0, Math.min(9, row[sender] - offset));
-                if (sender != dead && row[sender] >= -1 && row[sender] <= 9) {
-                    int greatest = 0;
-                    for (int other = 0; other < shares.length; other++) {
-                        greatest = Math.max(greatest, x.weight(sender, other, by));
-                    }
-                    number = number * x.weight(sender, cell, by) / greatest;
+                int[] here = new int[shares.length];
+                int greatest = 0;
+                for (int cell = 0; cell < shares.length; cell++) {
+                    here[cell] = x.weight(sender, cell, by);
+                    greatest = Math.max(greatest, here[cell]);
+                }
+                for (int cell = 0; cell < shares.length; cell++) {
+                    numbers[cell] = numbers[cell] * here[cell] / greatest;
                 }
             }
-            weights[cell] = BigInteger.valueOf(number).multiply(BigInteger.valueOf(shares[cell]));
+        }
+        BigInteger[] weights = new BigInteger[shares.length];
+        for (int cell = 0; cell < shares.length; cell++) {
+            weights[cell] = BigInteger.valueOf(numbers[cell]).multiply(BigInteger.valueOf(shares[cell]));
         }
         return madeWhole(weights);
     }
 
     private static void hearLost() {
-        InsidePlaces x = new InsidePlaces();
+        Place x = new Place();
         x.building(1, 3, 1);
         Check.fill(x, 0, new int[] {1, 1, 1, 1});
         for (int i = 0; i < 9; i++) {
@@ -283,7 +322,7 @@ final class SharesTest {
 
     /** All weights together are 1: that is not LOST yet. */
     private static void hearByTheLeastWeight() {
-        InsidePlaces x = new InsidePlaces();
+        Place x = new Place();
         x.building(1, 3, 1);
         int no = -2;
         Check.fill(x, 0, new int[] {1, 1, 1}, new int[] {no, no, no, 1, 1, 1, 1}, new int[] {no, no, no, no, no, no, 1});
@@ -307,7 +346,7 @@ final class SharesTest {
     }
 
     private static void hearRefusals() {
-        InsidePlaces x = new InsidePlaces();
+        Place x = new Place();
         Check.fill(x, 0, new int[] {1});
         x.known(3);
         long before = x.digest();
@@ -326,7 +365,7 @@ final class SharesTest {
     }
 
     private static void shareAndLikeliest() {
-        InsidePlaces x = new InsidePlaces();
+        Place x = new Place();
         x.building(1, 3, 2);
         int[] bad = {-1, 6, Integer.MIN_VALUE, Integer.MAX_VALUE};
         for (int cell : bad) {
@@ -348,22 +387,12 @@ final class SharesTest {
     }
 
     private static void areas() {
-        InsidePlaces x = new InsidePlaces();
-        x.building(2, 3, 4);
-        x.known(16);
-        x.lead(2);
         for (int floor = -1; floor <= 2; floor++) {
             for (int x0 = -1; x0 <= 3; x0++) {
-                for (int x1 = -1; x1 <= 3; x1++) {
-                    for (int y0 = -1; y0 <= 4; y0++) {
-                        for (int y1 = -1; y1 <= 4; y1++) {
-                            String call = "within(" + floor + ", " + x0 + ", " + x1 + ", " + y0 + ", " + y1 + ")";
-                            CHECK.due(call, x.within(floor, x0, x1, y0, y1), together(x, floor, x0, x1, y0, y1));
-                        }
-                    }
-                }
+                areasFrom(floor, x0);
             }
         }
+        Place x = new Place();
         int[] wild = {Integer.MIN_VALUE, Integer.MAX_VALUE, 1 << 30};
         for (int w : wild) {
             CHECK.due("within(wild)", x.within(w, 0, 0, 0, 0), InsidePlaces.BAD);
@@ -374,7 +403,23 @@ final class SharesTest {
         }
     }
 
-    private static int together(InsidePlaces x, int floor, int x0, int x1, int y0, int y1) {
+    private static void areasFrom(int floor, int x0) {
+        Place x = new Place();
+        x.building(2, 3, 4);
+        x.known(16);
+        x.lead(2);
+        int[] shares = sharesOf(x, 24);
+        for (int x1 = -1; x1 <= 3; x1++) {
+            for (int y0 = -1; y0 <= 4; y0++) {
+                for (int y1 = -1; y1 <= 4; y1++) {
+                    String call = "within(" + floor + ", " + x0 + ", " + x1 + ", " + y0 + ", " + y1 + ")";
+                    CHECK.due(call, x.within(floor, x0, x1, y0, y1), together(shares, floor, x0, x1, y0, y1));
+                }
+            }
+        }
+    }
+
+    private static int together(int[] shares, int floor, int x0, int x1, int y0, int y1) {
         if (floor < 0 || floor > 1 || x0 < 0 || x1 > 2 || x0 > x1 || y0 < 0 || y1 > 3 || y0 > y1) {
             return InsidePlaces.BAD;
         }
@@ -383,14 +428,14 @@ final class SharesTest {
             int atX = cell % 3;
             int atY = cell / 3 % 4;
             if (cell / 12 == floor && atX >= x0 && atX <= x1 && atY >= y0 && atY <= y1) {
-                sum += x.share(cell);
+                sum += shares[cell];
             }
         }
         return sum;
     }
 
     private static void sureness() {
-        InsidePlaces x = new InsidePlaces();
+        Place x = new Place();
         x.building(1, 3, 1);
         x.known(1);
         x.lead(2);

@@ -1,3 +1,5 @@
+import java.util.function.Supplier;
+
 /** Promises 27 to 33: sheet, lose, lay, get, copy, count, digest. */
 final class SheetsTest {
     private static final Check CHECK = new Check("SheetsTest");
@@ -18,7 +20,7 @@ final class SheetsTest {
     }
 
     private static void sheets() {
-        InsidePlaces x = new InsidePlaces();
+        Place x = new Place();
         for (int s = 0; s < 4; s++) {
             for (int form = 0; form < 3; form++) {
                 CHECK.due("sheet(" + s + ", " + form + ", 240)", x.sheet(s, form, 240), 240);
@@ -37,7 +39,7 @@ final class SheetsTest {
     }
 
     private static void sheetRefusals() {
-        InsidePlaces x = new InsidePlaces();
+        Place x = new Place();
         x.sheet(2, 1, 9);
         x.lay(2, 1, 8, 5);
         long before = x.digest();
@@ -55,7 +57,7 @@ final class SheetsTest {
     }
 
     private static void losing() {
-        InsidePlaces x = new InsidePlaces();
+        Place x = new Place();
         x.sheet(1, 2, 17);
         long before = x.digest();
         CHECK.due("lose(-1)", x.lose(-1), InsidePlaces.BAD);
@@ -74,7 +76,7 @@ final class SheetsTest {
     private static void laying() {
         int[] values = {0, 1, -1, 127, 128, 255, 256, -128, -129, 32767, 32768, 65535, 65536, 70000, -32768, -32769,
             Integer.MAX_VALUE, Integer.MIN_VALUE, 0x12345678, 0x1234ff80};
-        InsidePlaces x = new InsidePlaces();
+        Place x = new Place();
         for (int form = 0; form < 3; form++) {
             x.sheet(form, form, values.length);
             for (int i = 0; i < values.length; i++) {
@@ -89,7 +91,7 @@ final class SheetsTest {
     }
 
     private static void layRefusals() {
-        InsidePlaces x = new InsidePlaces();
+        Place x = new Place();
         x.sheet(1, 1, 8);
         x.sheet(2, 2, 0);
         long before = x.digest();
@@ -115,7 +117,7 @@ final class SheetsTest {
     }
 
     private static void getRefusals() {
-        InsidePlaces x = new InsidePlaces();
+        Place x = new Place();
         x.sheet(1, 1, 8);
         x.lay(1, 1, 7, -9);
         CHECK.due("get(-1, 1, 0)", x.get(-1, 1, 0), NO);
@@ -137,7 +139,7 @@ final class SheetsTest {
     }
 
     private static void copying() {
-        InsidePlaces x = new InsidePlaces();
+        Place x = new Place();
         x.sheet(0, 0, 10);
         x.sheet(3, 0, 4);
         for (int i = 0; i < 10; i++) {
@@ -168,14 +170,14 @@ final class SheetsTest {
         CHECK.due("count(6)", x.count(6), 0);
     }
 
-    private static void items(InsidePlaces x, int s, int... due) {
+    private static void items(Place x, int s, int... due) {
         for (int i = 0; i < due.length; i++) {
             CHECK.due("get(" + s + ", 0, " + i + ")", x.get(s, 0, i), due[i]);
         }
     }
 
     private static void copyRefusals() {
-        InsidePlaces x = new InsidePlaces();
+        Place x = new Place();
         x.sheet(0, 0, 10);
         x.sheet(1, 0, 4);
         x.sheet(2, 2, 10);
@@ -208,7 +210,7 @@ final class SheetsTest {
     }
 
     private static void counts() {
-        InsidePlaces x = new InsidePlaces();
+        Place x = new Place();
         x.building(3, 2, 4);
         x.wall(0, 1, true);
         x.wall(0, 2, true);
@@ -246,9 +248,28 @@ final class SheetsTest {
     }
 
     private static void digests() {
-        InsidePlaces x = new InsidePlaces();
-        digest(x, 16);
-        digest(x, x.building(2, 3, 2));
+        digest(Place::new, 16);
+        digest(() -> smaller(new Place()), 12);
+        digest(SheetsTest::used, 12);
+        digest(() -> {
+            Place x = used();
+            CHECK.due("lay(0, 0, 0, 0)", x.lay(0, 0, 0, 0), -13);
+            return x;
+        }, 12);
+        digest(() -> {
+            Place x = used();
+            CHECK.due("building(3, 4, 6)", x.building(3, 4, 6), 72);
+            return x;
+        }, 72);
+    }
+
+    private static Place smaller(Place x) {
+        CHECK.due("building(2, 3, 2)", x.building(2, 3, 2), 12);
+        return x;
+    }
+
+    private static Place used() {
+        Place x = smaller(new Place());
         Check.fill(x, 0, new int[] {1, 2, -1, 9, 33}, new int[] {7, 7, 7, 7, 7, 7, 7, 7});
         x.survey(0, 0, 11);
         x.survey(0, 1, 3);
@@ -267,14 +288,12 @@ final class SheetsTest {
         x.known(7);
         x.lead(3);
         x.lose(3);
-        digest(x, 12);
-        x.lay(0, 0, 0, 0);
-        CHECK.due("count(6)", x.count(6), 3);
-        digest(x, 12);
-        digest(x, x.building(3, 4, 6));
+        return x;
     }
 
-    private static void digest(InsidePlaces x, int cells) {
+    /** The digest by what the calls tell; objects made alike, as one is used for at most 512 calls. */
+    private static void digest(Supplier<Place> made, int cells) {
+        Place x = made.get();
         long h = 17;
         int[] whats = {0, 1, 2, 3, 4, 5, 7, 8, 9, 10};
         for (int what : whats) {
@@ -284,10 +303,12 @@ final class SheetsTest {
             h = 31 * h + x.share(cell);
         }
         for (int sender = 0; sender < 8; sender++) {
+            Place asked = made.get();
             for (int cell = 0; cell < cells; cell++) {
+                asked = asked.left() < 11 ? made.get() : asked;
                 long sum = 0;
                 for (int heard = -1; heard <= 9; heard++) {
-                    sum += x.weight(sender, cell, heard);
+                    sum += asked.weight(sender, cell, heard);
                 }
                 h = 31 * h + sum;
             }

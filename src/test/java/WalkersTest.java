@@ -1,6 +1,8 @@
 /** Promises 24 to 26: put, least, give. */
 final class WalkersTest {
     private static final Check CHECK = new Check("WalkersTest");
+    /** x0 and x1 of three, y0 and y1 of two; no AREA where one is above the other. */
+    private static final int AREAS = 3 * 3 * 2 * 2;
 
     public static void main(String[] args) {
         putting();
@@ -17,7 +19,7 @@ final class WalkersTest {
     }
 
     private static void putting() {
-        InsidePlaces x = new InsidePlaces();
+        Place x = new Place();
         CHECK.due("put(0, 3)", x.put(0, 3), InsidePlaces.NONE);
         CHECK.due("put(0, 3)", x.put(0, 3), 3);
         CHECK.due("put(19, 15)", x.put(19, 15), InsidePlaces.NONE);
@@ -33,7 +35,7 @@ final class WalkersTest {
     }
 
     private static void puttingForgets() {
-        InsidePlaces x = withWalkers(5, 0);
+        Place x = withWalkers(5, 0);
         CHECK.due("give", x.give(0, 0, 0, 0, 0), 3);
         CHECK.due("give too near", x.give(0, 0, 1, 0, 0), InsidePlaces.NOT);
         CHECK.due("put(0, 0) where it is", x.put(0, 0), 0);
@@ -46,8 +48,8 @@ final class WalkersTest {
         CHECK.due("count(5) after BAD", x.count(5), 1);
     }
 
-    private static InsidePlaces withWalkers(int walkers, int cell) {
-        InsidePlaces x = new InsidePlaces();
+    private static Place withWalkers(int walkers, int cell) {
+        Place x = new Place();
         for (int walker = 0; walker < walkers; walker++) {
             x.put(walker, cell);
         }
@@ -55,7 +57,7 @@ final class WalkersTest {
     }
 
     private static void puttingRefused() {
-        InsidePlaces x = withWalkers(4, 5);
+        Place x = withWalkers(4, 5);
         x.give(0, 1, 1, 1, 1);
         long before = x.digest();
         int[][] bad = {{-1, 0}, {20, 0}, {0, -2}, {0, 16}, {20, -1}, {Integer.MAX_VALUE, 0}, {0, Integer.MIN_VALUE},
@@ -70,7 +72,7 @@ final class WalkersTest {
     }
 
     private static void leastOnes() {
-        InsidePlaces x = withWalkers(20, 6);
+        Place x = withWalkers(20, 6);
         int was = 3;
         for (int n = 1; n <= 20; n++) {
             CHECK.due("least(" + n + ")", x.least(n), was);
@@ -93,7 +95,7 @@ final class WalkersTest {
     private static void numbers() {
         for (int walkers = 0; walkers <= 20; walkers++) {
             for (int least = 1; least <= 20; least++) {
-                InsidePlaces x = withWalkers(walkers, 9);
+                Place x = withWalkers(walkers, 9);
                 x.least(least);
                 int due = walkers < least ? InsidePlaces.NOT : walkers - walkers % least;
                 CHECK.due(walkers + " by " + least, x.give(0, 0, 1, 1, 3), due);
@@ -104,7 +106,7 @@ final class WalkersTest {
     }
 
     private static void areasThatPart() {
-        InsidePlaces x = withWalkers(6, 5);
+        Place x = withWalkers(6, 5);
         CHECK.due("give 4 CELLS", x.give(0, 0, 1, 0, 1), 6);
         CHECK.due("2 CELLS less", x.give(0, 1, 1, 0, 1), InsidePlaces.NOT);
         CHECK.due("2 CELLS more", x.give(0, 0, 2, 0, 1), InsidePlaces.NOT);
@@ -121,7 +123,7 @@ final class WalkersTest {
     }
 
     private static void areasOfFloors() {
-        InsidePlaces x = new InsidePlaces();
+        Place x = new Place();
         x.building(2, 2, 2);
         for (int walker = 0; walker < 10; walker++) {
             x.put(walker, walker < 4 ? 1 : 5);
@@ -137,7 +139,7 @@ final class WalkersTest {
     }
 
     private static void fullness() {
-        InsidePlaces x = new InsidePlaces();
+        Place x = new Place();
         x.building(1, 6, 6);
         for (int walker = 0; walker < 20; walker++) {
             x.put(walker, 0);
@@ -165,7 +167,7 @@ final class WalkersTest {
         CHECK.due("too many", x.give(0, 2, 2, 3, 3), InsidePlaces.FULL);
     }
 
-    private static void fillUp(InsidePlaces x) {
+    private static void fillUp(Place x) {
         x.building(1, 6, 6);
         for (int walker = 0; walker < 20; walker++) {
             x.put(walker, walker % 2 == 0 ? 0 : 20);
@@ -186,7 +188,7 @@ final class WalkersTest {
     }
 
     private static void giveRefusals() {
-        InsidePlaces x = withWalkers(9, 0);
+        Place x = withWalkers(9, 0);
         long before = x.digest();
         int[][] bad = {{-1, 0, 0, 0, 0}, {1, 0, 0, 0, 0}, {0, -1, 0, 0, 0}, {0, 1, 0, 0, 0}, {0, 0, 4, 0, 0},
             {0, 0, 0, -1, 0}, {0, 0, 0, 1, 0}, {0, 0, 0, 0, 4}, {0, 4, 4, 0, 0}, {0, 0, 0, 4, 4}};
@@ -206,39 +208,40 @@ final class WalkersTest {
 
     /** Any two AREAS of a small building: the second is refused just where the CELLS say so. */
     private static void everyTwoAreas() {
-        InsidePlaces x = new InsidePlaces();
         for (int least = 2; least <= 5; least++) {
-            x.building(1, 3, 2);
-            for (int walker = 0; walker < 20; walker++) {
-                x.put(walker, walker % 6);
-            }
-            for (int first = 0; first < 81 * 4; first++) {
-                for (int second = 0; second < 81 * 4; second++) {
-                    long one = maskOf(first);
-                    long two = maskOf(second);
-                    if (one == 0 || two == 0) {
-                        continue;
-                    }
-                    x.least(least);
-                    int given = giveCode(x, first);
-                    int parts = Long.bitCount(one ^ two);
-                    int number = walkersIn(two);
-                    boolean refused = number < least || given > 0 && parts > 0 && parts < least;
-                    int due = refused ? InsidePlaces.NOT : number - number % least;
-                    CHECK.due("give " + second + " after " + first + " by " + least, giveCode(x, second), due);
+            for (int first = 0; first < AREAS; first++) {
+                if (maskOf(first) != 0) {
+                    everySecondArea(least, first);
                 }
             }
         }
     }
 
-    private static int giveCode(InsidePlaces x, int code) {
+    private static void everySecondArea(int least, int first) {
+        Place x = new Place();
+        x.building(1, 3, 2);
+        for (int walker = 0; walker < 20; walker++) {
+            x.put(walker, walker % 6);
+        }
+        for (int second = 0; second < AREAS; second++) {
+            long two = maskOf(second);
+            if (two != 0) {
+                x.least(least);
+                int given = giveCode(x, first);
+                int parts = Long.bitCount(maskOf(first) ^ two);
+                int number = walkersIn(two);
+                boolean refused = number < least || given > 0 && parts > 0 && parts < least;
+                int due = refused ? InsidePlaces.NOT : number - number % least;
+                CHECK.due("give " + second + " after " + first + " by " + least, giveCode(x, second), due);
+            }
+        }
+    }
+
+    private static int giveCode(Place x, int code) {
         return x.give(0, code % 3, code / 3 % 3, code / 9 % 2, code / 18 % 2);
     }
 
     private static long maskOf(int code) {
-        if (code >= 36) {
-            return 0;
-        }
         long mask = 0;
         for (int y = code / 9 % 2; y <= code / 18 % 2; y++) {
             for (int at = code % 3; at <= code / 3 % 3; at++) {

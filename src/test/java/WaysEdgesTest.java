@@ -85,7 +85,7 @@ final class WaysEdgesTest {
         CHECK.sentence("20: the least SCORE: all are MISSING in one ROW");
         new Run(CHECK).rows(0, new int[] {}).calls("""
             best(0) = 0; way(0) = 0; way(1) = BAD; learn(0) = 1; moved(0) = 0
-            """).due("digest()", new InsidePlaces().digest());
+            """).due("digest()", new Place().digest());
         CHECK.sentence("20: the greatest SCORE: all counts are 255, thirty ROWS, STAY 9");
         new Run(CHECK).prepared("building(1, 1, 1); stay(9); sheet(0, 0, 240)" + "; learn(0)".repeat(8)).calls("""
             best(0) = 58101   # 30 times 8 times 241, and 29 times 9

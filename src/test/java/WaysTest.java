@@ -2,6 +2,9 @@
 final class WaysTest {
     private static final Check CHECK = new Check("WaysTest");
     private static final int MISSING = -2;
+    /** LIKELY of each STEP; THE WEIGHT of each ROW's SENDERS in each CELL, 0 of those that are MISSING or DEAD. */
+    private static int[][] steps;
+    private static int[][][] weights;
     private static int[] bestWay;
     private static int bestScore;
 
@@ -20,7 +23,7 @@ final class WaysTest {
     }
 
     private static void byHand() {
-        InsidePlaces x = new InsidePlaces();
+        Place x = new Place();
         x.building(1, 3, 1);
         Check.fill(x, 0, new int[] {1}, new int[] {2}, new int[] {3});
         for (int i = 0; i < 5; i++) {
@@ -45,7 +48,7 @@ final class WaysTest {
     }
 
     private static void tiesAreLexicographic() {
-        InsidePlaces x = new InsidePlaces();
+        Place x = new Place();
         x.building(1, 3, 1);
         Check.fill(x, 0, new int[] {-2}, new int[] {-2}, new int[] {-2}, new int[] {-2});
         CHECK.due("best(0) of MISSING ones", x.best(0), 6);
@@ -71,7 +74,7 @@ final class WaysTest {
     private static void triedEveryWay() {
         long seed = 12345;
         for (int round = 0; round < 400; round++) {
-            InsidePlaces x = new InsidePlaces();
+            Place x = new Place();
             int[] at = new int[80];
             for (int i = 0; i < at.length; i++) {
                 seed = seed * 6364136223846793005L + 1442695040888963407L;
@@ -94,69 +97,86 @@ final class WaysTest {
             for (int i = 0; i < 12; i++) {
                 x.survey(0, at[50 + i] % rows.length, at[63 + i] % cells);
             }
-            tryEveryWay(x, cells, rows, -1);
+            ask(x, cells, rows);
+            tryEveryWay(-1);
             long before = x.digest();
             CHECK.due("best(0) of round " + round, x.best(0), bestWay == null ? InsidePlaces.NOT : bestScore);
             for (int i = 0; i < rows.length; i++) {
                 int due = bestWay == null ? InsidePlaces.BAD : bestWay[i];
                 CHECK.due("way(" + i + ") of round " + round, x.way(i), due);
             }
-            CHECK.due("moved(0) of round " + round, x.moved(0), movedBits(x, cells, rows));
+            CHECK.due("moved(0) of round " + round, x.moved(0), movedBits());
             CHECK.same("best(0), moved(0)", x, before, 0);
         }
     }
 
-    /** Every way in the order of its CELLS: the first with the greatest SCORE is THE BEST WAY. */
-    private static void tryEveryWay(InsidePlaces x, int cells, int[][] rows, int without) {
-        bestWay = null;
-        bestScore = -1;
-        goOn(x, cells, rows, without, new int[rows.length], 0, 0);
+    /** What ways are reckoned by is asked but once, as an object is used for at most 512 calls. */
+    private static void ask(Place x, int cells, int[][] rows) {
+        int dead = x.count(9);
+        steps = new int[cells][cells];
+        for (int from = 0; from < cells; from++) {
+            for (int to = 0; to < cells; to++) {
+                steps[from][to] = x.step(from, to);
+            }
+        }
+        weights = new int[rows.length][8][cells];
+        for (int row = 0; row < rows.length; row++) {
+            for (int sender = 0; sender < 8; sender++) {
+                boolean counts = rows[row][sender] != MISSING && (dead >> sender & 1) == 0;
+                for (int cell = 0; cell < cells && counts; cell++) {
+                    weights[row][sender][cell] = x.weight(sender, cell, rows[row][sender]);
+                }
+            }
+        }
     }
 
-    private static void goOn(InsidePlaces x, int cells, int[][] rows, int without, int[] way, int row, int score) {
-        if (row == rows.length) {
+    /** Every way in the order of its CELLS: the first with the greatest SCORE is THE BEST WAY. */
+    private static void tryEveryWay(int without) {
+        bestWay = null;
+        bestScore = -1;
+        goOn(without, new int[weights.length], 0, 0);
+    }
+
+    private static void goOn(int without, int[] way, int row, int score) {
+        if (row == way.length) {
             if (score > bestScore) {
                 bestScore = score;
                 bestWay = way.clone();
             }
             return;
         }
-        for (int cell = 0; cell < cells; cell++) {
-            int likely = row == 0 ? 0 : x.step(way[row - 1], cell);
+        for (int cell = 0; cell < steps.length; cell++) {
+            int likely = row == 0 ? 0 : steps[way[row - 1]][cell];
             if (row == 0 || likely > 0) {
                 way[row] = cell;
-                goOn(x, cells, rows, without, way, row + 1, score + likely + heard(x, rows[row], cell, without));
+                goOn(without, way, row + 1, score + likely + heard(row, cell, without));
             }
         }
     }
 
-    private static int heard(InsidePlaces x, int[] row, int cell, int without) {
+    private static int heard(int row, int cell, int without) {
         int sum = 0;
         for (int sender = 0; sender < 8; sender++) {
-            boolean dead = (x.count(9) >> sender & 1) == 1;
-            if (!dead && sender != without && row[sender] >= -1 && row[sender] <= 9) {
-                sum += x.weight(sender, cell, row[sender]);
-            }
+            sum += sender == without ? 0 : weights[row][sender][cell];
         }
         return sum;
     }
 
-    private static int movedBits(InsidePlaces x, int cells, int[][] rows) {
+    private static int movedBits() {
         int bits = 0;
         for (int sender = 0; sender < 8; sender++) {
-            tryEveryWay(x, cells, rows, sender);
+            tryEveryWay(sender);
             if (bestWay == null) {
                 return InsidePlaces.NOT;
             }
             int heard = 0;
             int unknown = 0;
-            for (int row = 0; row < rows.length; row++) {
-                if (rows[row][sender] != MISSING) {
-                    heard++;
-                    unknown += x.weight(sender, bestWay[row], rows[row][sender]) == 1 ? 1 : 0;
-                }
+            for (int row = 0; row < weights.length; row++) {
+                int weight = weights[row][sender][bestWay[row]];
+                heard += weight > 0 ? 1 : 0;
+                unknown += weight == 1 ? 1 : 0;
             }
-            if ((x.count(9) >> sender & 1) == 0 && unknown * 2 > heard) {
+            if (unknown * 2 > heard) {
                 bits |= 1 << sender;
             }
         }
@@ -164,7 +184,7 @@ final class WaysTest {
     }
 
     private static void waysThatAreTold() {
-        InsidePlaces x = new InsidePlaces();
+        Place x = new Place();
         CHECK.due("way(0) before any", x.way(0), InsidePlaces.BAD);
         Check.fill(x, 0, new int[] {1}, new int[] {2});
         Check.fill(x, 1, new int[] {3});
@@ -191,7 +211,7 @@ final class WaysTest {
     }
 
     private static void noWay() {
-        InsidePlaces x = new InsidePlaces();
+        Place x = new Place();
         x.building(2, 2, 1);
         x.stay(0);
         x.wall(0, 1, true);
@@ -217,7 +237,7 @@ final class WaysTest {
     }
 
     private static void learning() {
-        InsidePlaces x = new InsidePlaces();
+        Place x = new Place();
         x.building(1, 3, 1);
         Check.fill(x, 0, new int[] {1, -1}, new int[] {2, 11}, new int[] {3, 9});
         x.dead(1, true);
@@ -241,7 +261,7 @@ final class WaysTest {
     }
 
     private static void deadAndMissing() {
-        InsidePlaces x = new InsidePlaces();
+        Place x = new Place();
         x.building(1, 2, 1);
         Check.fill(x, 0, new int[] {5, 5, -2, 300});
         x.survey(0, 0, 1);
@@ -255,7 +275,7 @@ final class WaysTest {
     }
 
     private static void movedOnes() {
-        InsidePlaces x = new InsidePlaces();
+        Place x = new Place();
         x.building(1, 4, 1);
         Check.fill(x, 0, new int[] {1, 5, 5}, new int[] {2, 6, 6}, new int[] {3, 7, 7}, new int[] {4, 8, 8});
         for (int i = 0; i < 4; i++) {
@@ -276,7 +296,7 @@ final class WaysTest {
     }
 
     private static void movedByHalf() {
-        InsidePlaces x = new InsidePlaces();
+        Place x = new Place();
         x.building(1, 1, 1);
         Check.fill(x, 0, new int[] {1}, new int[] {2}, new int[] {-2}, new int[] {-2});
         x.survey(0, 0, 0);
@@ -292,7 +312,7 @@ final class WaysTest {
     }
 
     private static void refusals() {
-        InsidePlaces x = new InsidePlaces();
+        Place x = new Place();
         x.sheet(0, 0, 0);
         x.sheet(1, 2, 7);
         long before = x.digest();
